@@ -483,14 +483,22 @@ public final class StripedStore {
         }
 
         static void move(int[] from, int i, int[] to, int j, int n) {
-            for (int k = 0; k < n; k++) {
-                set(to, j + k, at(from, i + k));
+            int k = 0;
+            if ((i & 3) == 0 && (j & 3) == 0) {
+                System.arraycopy(from, i >> 2, to, j >> 2, n >> 2);
+                k = n >> 2 << 2;
+            }
+            while (k < n) {
+                int value = from[i + k >> 2] >>> 24 - 8 * (i + k & 3) & 255;
+                int shift = 24 - 8 * (j + k & 3);
+                to[j + k >> 2] = to[j + k >> 2] & ~(255 << shift) | value << shift;
+                k++;
             }
         }
 
         static void clear(int[] words, int i, int n) {
-            for (int k = 0; k < n; k++) {
-                set(words, i + k, 0);
+            for (int k = i; k < i + n; k++) {
+                words[k >> 2] &= ~(255 << 24 - 8 * (k & 3));
             }
         }
 
@@ -642,14 +650,17 @@ public final class StripedStore {
             return words[at] == MARK;
         }
 
-        /** The shift lets a bit that is high in one word be felt low in the next: two such must not cancel out. */
+        /**
+         * The shift lets a bit that is high in one word be felt low in the next: two such must not cancel out. It is
+         * never 0: else the first bytes of a block could seem to be a whole one, with the zeros that were there before.
+         */
         private static int sum(int[] words, int at) {
             int h = words[at + 1];
             for (int w = 3; w < BLOCK_WORDS; w++) {
                 h = (h ^ words[at + w]) * 73244475;
                 h ^= h >>> 15;
             }
-            return h;
+            return h == 0 ? 1 : h;
         }
 
         boolean isFull() {
@@ -688,7 +699,11 @@ public final class StripedStore {
         }
 
         void flush() {
-            fail(-1, 0);
+            for (int i = 0; i < count; i++) {
+                System.arraycopy(fresh, i * BLOCK_WORDS, flushed, slotOf[i] * BLOCK_WORDS, BLOCK_WORDS);
+                freshOf[slotOf[i]] = NOTHING;
+            }
+            count = 0;
         }
 
         /** Of the blocks not FLUSHED those of mask stand, and of the first other one its first part bytes. */
@@ -916,6 +931,7 @@ public final class StripedStore {
 
     /** What ROOT and RECORDS say: FILES and the VERSIONS of their ITEMS; and which NODES are known to have those. */
     private static final class Table {
+        private static final int TAGS_OF_ID = PARTS * OPERATIONS;
         private final int groups;
         final int[] id = new int[MAX_FILES];
         final int[] size = new int[MAX_FILES];
@@ -935,29 +951,16 @@ public final class StripedStore {
             forget();
         }
 
-        /** An ITEM as a number: what it is of, which part of it, and its VERSION. */
-        static int tag(int id, int part, int version) {
-            return (id * 32 + part) * OPERATIONS + version;
-        }
-
-        static int idOf(int tag) {
-            return tag / (32 * OPERATIONS);
-        }
-
-        static int partOf(int tag) {
-            return tag / OPERATIONS % 32;
-        }
-
         static int versionOf(int tag) {
             return tag % OPERATIONS;
         }
 
         static boolean isRoot(int tag) {
-            return tag / (32 * OPERATIONS) == ROOT_ID;
+            return tag / TAGS_OF_ID == ROOT_ID;
         }
 
         static boolean isStripe(int tag) {
-            return tag / (32 * OPERATIONS) != ROOT_ID && tag / OPERATIONS % 32 < STRIPES;
+            return tag / TAGS_OF_ID != ROOT_ID && tag / OPERATIONS % PARTS < STRIPES;
         }
 
         void forget() {
@@ -981,19 +984,20 @@ public final class StripedStore {
 
         /** Where the ITEM is in version and holders, if it is wanted. */
         int find(int tag) {
-            int i = tag / (32 * OPERATIONS);
-            int part = tag / OPERATIONS % 32;
+            int i = tag / TAGS_OF_ID;
             int at = NOTHING;
-            if (i == ROOT_ID && part == 0) {
+            if (i == ROOT_ID) {
                 at = ROOT;
-            } else if (i >= 0 && i < OPERATIONS && part >= 0 && part < PARTS && fileOf[i] >= 0) {
-                at = fileOf[i] * PARTS + part;
+            } else if (tag >= 0 && i < OPERATIONS && fileOf[i] >= 0) {
+                at = fileOf[i] * PARTS + tag / OPERATIONS % PARTS;
             }
             return at >= 0 && version[at] == tag % OPERATIONS ? at : NOTHING;
         }
 
+        /** An ITEM as a number: what it is of, which part of that, and its VERSION. */
         int tagAt(int at) {
-            return at == ROOT ? tag(ROOT_ID, 0, version[at]) : tag(id[at / PARTS], at % PARTS, version[at]);
+            int part = at == ROOT ? ROOT_ID * PARTS : id[at / PARTS] * PARTS + at % PARTS;
+            return part * OPERATIONS + version[at];
         }
 
         /** NAMES and what belongs to them are kept by GROUP 0. */
@@ -1037,8 +1041,9 @@ public final class StripedStore {
         int firstAfter(int[] words, int length) {
             int best = NOTHING;
             for (int f = 0; f < MAX_FILES; f++) {
-                if (id[f] >= 0 && Bytes.compare(names, f * NAME_WORDS, nameLength[f], words, 0, length) > 0
-                        && (best < 0 || compare(f, best) < 0)) {
+                int at = f * NAME_WORDS;
+                if (id[f] >= 0 && Bytes.compare(names, at, nameLength[f], words, 0, length) > 0 && (best < 0
+                        || Bytes.compare(names, at, nameLength[f], names, best * NAME_WORDS, nameLength[best]) < 0)) {
                     best = f;
                 }
             }
@@ -1182,22 +1187,14 @@ public final class StripedStore {
                 answer = table.answer;
                 step = STORE;
             } else if (root == before) {
-                lookUp();
+                file = table.named(asked.words, 0, asked.length0);
+                other = asked.kind == NEXT ? table.firstAfter(asked.words, asked.length0)
+                    : table.named(asked.words, NAME_WORDS, asked.length1);
                 answer = foretell(MAX_BYTES - table.total());
                 if (answer >= 0) {
                     touch();
                 }
                 step = answer < 0 || asked.kind == SIZE || asked.kind == NEXT ? TELL : FETCH;
-            }
-        }
-
-        private void lookUp() {
-            file = table.named(asked.words, 0, asked.length0);
-            other = NOTHING;
-            if (asked.kind == NEXT) {
-                other = table.firstAfter(asked.words, asked.length0);
-            } else if (asked.kind == RENAME || asked.kind == SWAP) {
-                other = table.named(asked.words, NAME_WORDS, asked.length1);
             }
         }
 
@@ -1267,8 +1264,11 @@ public final class StripedStore {
 
         void change() {
             step = asked.kind == READ ? TELL : STORE;
+            if (file < 0) {
+                makeFile();
+            }
             switch (asked.kind) {
-                case MAKE: makeFile(); break;
+                case MAKE: break;
                 case WRITE:
                 case APPEND: write(); break;
                 case CUT: cut(); break;
@@ -1279,6 +1279,7 @@ public final class StripedStore {
             }
         }
 
+        /** Only MAKE, WRITE and APPEND come so far without a FILE. */
         private void makeFile() {
             file = table.add(op);
             table.setName(file, asked.words, 0, asked.length0);
@@ -1286,14 +1287,12 @@ public final class StripedStore {
         }
 
         private void write() {
-            if (file < 0) {
-                makeFile();
-            }
             for (int i = 0; i < count; i++) {
                 int start = (first + i) * STRIPE_BYTES;
                 int from = Math.max(asked.a, start);
                 int to = Math.min(asked.a + span, start + STRIPE_BYTES);
-                Bytes.move(asked.words, TAPE_AT * 4 + from - asked.a, blocks, i * BLOCK_BYTES + HEAD_BYTES + from - start, to - from);
+                int inBlock = i * BLOCK_BYTES + HEAD_BYTES + from - start;
+                Bytes.move(asked.words, TAPE_AT * 4 + from - asked.a, blocks, inBlock, to - from);
             }
             if (span > 0) {
                 table.size[file] = Math.max(table.size[file], asked.a + span);
@@ -1320,7 +1319,8 @@ public final class StripedStore {
                 int start = (first + i) * STRIPE_BYTES;
                 int from = Math.max(asked.a, start);
                 int to = Math.min(asked.a + span, start + STRIPE_BYTES);
-                Bytes.move(blocks, i * BLOCK_BYTES + HEAD_BYTES + from - start, asked.words, TAPE_AT * 4 + from - asked.a, to - from);
+                int inBlock = i * BLOCK_BYTES + HEAD_BYTES + from - start;
+                Bytes.move(blocks, inBlock, asked.words, TAPE_AT * 4 + from - asked.a, to - from);
             }
         }
 
@@ -1354,16 +1354,13 @@ public final class StripedStore {
                 table.renew(at, op);
                 Disk.seal(blocks, i * BLOCK_WORDS, table.tagAt(at));
             }
-            sealRecord(renewed, RECORD_BLOCK * BLOCK_WORDS);
-            sealRecord(renewedToo, (RECORD_BLOCK + 1) * BLOCK_WORDS);
-        }
-
-        private void sealRecord(int f, int to) {
-            if (f >= 0) {
-                int at = f * PARTS + RECORD;
-                table.renew(at, op);
-                table.writeRecord(f, blocks, to);
-                Disk.seal(blocks, to, table.tagAt(at));
+            for (int i = RECORD_BLOCK; i < ROOT_BLOCK; i++) {
+                int f = i == RECORD_BLOCK ? renewed : renewedToo;
+                if (f >= 0) {
+                    table.renew(f * PARTS + RECORD, op);
+                    table.writeRecord(f, blocks, i * BLOCK_WORDS);
+                    Disk.seal(blocks, i * BLOCK_WORDS, table.tagAt(f * PARTS + RECORD));
+                }
             }
         }
 
@@ -1404,6 +1401,8 @@ public final class StripedStore {
         /** The RECORDS that were asked for since the latest TICK. */
         private long asked;
         private int nextItem, turn;
+        /** Whether all ITEMS were seen to be where they belong since the table was changed. */
+        private boolean mended;
 
         Leader(int me, Ranks ranks, Net net) {
             this.me = me;
@@ -1430,6 +1429,7 @@ public final class StripedStore {
             heard = 0;
             clean = 0;
             asked = 0;
+            mended = false;
         }
 
         private void poll() {
@@ -1442,12 +1442,12 @@ public final class StripedStore {
 
         void work() {
             asked = 0;
-            turn++;
+            turn = (turn + 1) % ranks.nodes;
             if (work.step != STORE && work.step != COMMIT) {
                 poll();
             }
             push();
-            if (!work.isActive() && table.isKnown()) {
+            if (!work.isActive() && table.isKnown() && !mended) {
                 mend();
             }
         }
@@ -1482,6 +1482,7 @@ public final class StripedStore {
             }
             if (work.step == COMMIT && areSafe(Work.ROOT_BLOCK, Work.BLOCKS)) {
                 clean = 0;
+                mended = false;
                 work.step = TELL;
             }
             if (work.step == TELL) {
@@ -1545,7 +1546,7 @@ public final class StripedStore {
 
         /** Another one at each TICK: the one that was asked before may be DOWN. */
         private int oneOf(int holders) {
-            int n = turn % ranks.nodes;
+            int n = turn;
             for (int i = 0; i < ranks.nodes && (holders >> n & 1) == 0; i++) {
                 n = (n + 1) % ranks.nodes;
             }
@@ -1567,17 +1568,21 @@ public final class StripedStore {
 
         private void mend() {
             int orders = 0;
+            mended = true;
             for (int i = 0; i < ITEMS && orders < ORDERS; i++) {
                 int at = nextItem;
                 nextItem = (nextItem + 1) % ITEMS;
-                if (table.version[at] >= 0 && table.holders[at] != 0) {
-                    int missing = masks[table.groupOf(at)] & ~table.holders[at] & heard;
-                    orders += sendTo(missing, at);
+                if (table.version[at] >= 0 && !isSafe(at)) {
+                    mended = false;
+                    orders += sendTo(masks[table.groupOf(at)] & ~table.holders[at] & heard, at);
                 }
             }
         }
 
         private int sendTo(int missing, int at) {
+            if (table.holders[at] == 0) {
+                return 0;
+            }
             for (int n = 0; n < ranks.nodes; n++) {
                 if ((missing >> n & 1) != 0) {
                     Message m = net.post(SEND, me, oneOf(table.holders[at]), epoch, set);
@@ -1629,15 +1634,11 @@ public final class StripedStore {
                 return table.isKnown() && Table.versionOf(tag) <= table.version[ROOT] ? SPARE : UNSURE;
             }
             table.holders[at] |= 1 << n;
-            if ((masks[table.groupOf(at)] >> n & 1) != 0) {
+            int mask = masks[table.groupOf(at)];
+            if ((mask >> n & 1) != 0) {
                 return KEEP;
             }
-            return isStoredWhereDue(at) ? SPARE : UNSURE;
-        }
-
-        private boolean isStoredWhereDue(int at) {
-            int mask = masks[table.groupOf(at)];
-            return mask != 0 && (table.holders[at] & mask) == mask;
+            return mask != 0 && (table.holders[at] & mask) == mask ? SPARE : UNSURE;
         }
 
         private void fetchIfNews(int tag, int n) {
@@ -1662,6 +1663,7 @@ public final class StripedStore {
                     work.step = work.isActive() ? WAIT : work.step;
                     clean = 0;
                     asked = 0;
+                    mended = false;
                     poll();
                 }
                 return;
@@ -1694,6 +1696,7 @@ public final class StripedStore {
             if (at >= 0) {
                 table.holders[at] &= ~(1 << m.from);
                 setClean(m.from, false);
+                mended = false;
             }
         }
 

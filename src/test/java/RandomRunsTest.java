@@ -2,14 +2,15 @@ import java.util.Random;
 
 /** Long runs of calls, drawn by a seed, on a StripedStore and a PlainStore: every answer has to be the same. */
 public final class RandomRunsTest {
-    private static final int CALLS = 512;
+    /** More calls than an object is made for, so that its DISKS get full: it has room for 512 OPERATIONS. */
+    private static final int CALLS = 4000, OPERATIONS = 500;
     private final Random random;
     private final StringBuilder log = new StringBuilder();
     private final StripedStore store;
     private final PlainStore plain;
     private int wrong, calls;
     /** How the run is: how often what fails, how long the names and the bytes are. */
-    private final int failing, nameKinds, lengths, settling;
+    private final int failing, nameKinds, lengths, settling, most;
 
     private RandomRunsTest(long seed) {
         random = new Random(seed);
@@ -22,12 +23,13 @@ public final class RandomRunsTest {
         nameKinds = random.nextInt(3);
         lengths = random.nextInt(4);
         settling = 10 + random.nextInt(60);
+        most = random.nextInt(3) == 0 ? CALLS : 512;
         log.append("new ").append(n).append(' ').append(r).append(' ').append(g).append('\n');
     }
 
     public static void main(String[] args) {
         long from = args.length > 0 ? Long.parseLong(args[0]) : 1;
-        long to = args.length > 1 ? Long.parseLong(args[1]) : 400;
+        long to = args.length > 1 ? Long.parseLong(args[1]) : 1000;
         int failed = 0;
         for (long seed = from; seed <= to; seed++) {
             RandomRunsTest run = new RandomRunsTest(seed);
@@ -47,7 +49,7 @@ public final class RandomRunsTest {
     }
 
     private void go() {
-        while (calls < CALLS && wrong == 0) {
+        while (calls < most && plain.count(3) < OPERATIONS && wrong == 0) {
             step();
         }
     }
@@ -80,8 +82,10 @@ public final class RandomRunsTest {
     }
 
     private void traffic() {
-        int dice = random.nextInt(10);
-        if (dice < 5) {
+        int dice = random.nextInt(12);
+        if (dice > 9) {
+            busyTime();
+        } else if (dice < 5) {
             int n = 1 + random.nextInt(random.nextBoolean() ? 500 : 60);
             int seed = random.nextInt();
             due("stir " + n + " " + seed, store.stir(n, seed), plain.stir(n));
@@ -102,7 +106,50 @@ public final class RandomRunsTest {
         }
     }
 
+    private void busyTime() {
+        int n = random.nextInt(12);
+        for (int i = 0; i < n; i++) {
+            due("tick 1", store.tick(1), plain.tick(1));
+            int seed = random.nextInt();
+            due("stir 90 " + seed, store.stir(90, seed), plain.stir(90));
+            if (failing > 0 && random.nextInt(4) == 0) {
+                failure();
+            }
+        }
+    }
+
+    /** Groups move while operations go on, and a disk is lost as soon as its copies may have gone elsewhere. */
+    private void migration() {
+        int all = (1 << plain.nodes) - 1;
+        for (int i = random.nextInt(4); i >= 0; i--) {
+            int set = random.nextInt() | (random.nextBoolean() ? 0 : random.nextInt());
+            due("map " + set, store.map(set), plain.map(set));
+            crowd(3 + random.nextInt(8));
+        }
+        int n = random.nextInt(plain.nodes);
+        due("crash " + n, one(store.crash(n, 0, 300)), one(plain.crash(n)));
+        due("replace " + n, one(store.replace(n)), one(plain.replace(n)));
+        due("restart " + n, one(store.restart(n)), one(plain.restart(n)));
+        crowd(random.nextInt(5));
+        due("map " + all, store.map(all), plain.map(all));
+    }
+
+    private void crowd(int ticks) {
+        for (int i = 0; i < ticks; i++) {
+            if (random.nextInt(3) == 0) {
+                operation();
+            }
+            due("tick 1", store.tick(1), plain.tick(1));
+            int seed = random.nextInt();
+            due("stir 200 " + seed, store.stir(200, seed), plain.stir(200));
+        }
+    }
+
     private void failure() {
+        if (failing == 3 && random.nextInt(3) == 0) {
+            migration();
+            return;
+        }
         int n = random.nextInt(plain.nodes);
         int dice = random.nextInt(failing == 1 ? 5 : 10);
         if (dice < 3) {
