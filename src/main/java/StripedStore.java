@@ -1765,6 +1765,7 @@ public final class StripedStore {
             this.ranks = ranks;
             this.net = net;
             set = (1 << ranks.nodes) - 1;
+            mapHeard = set;
             for (int i = 0; i < asked.length; i++) {
                 asked[i] = new Asked();
             }

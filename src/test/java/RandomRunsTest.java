@@ -29,7 +29,7 @@ public final class RandomRunsTest {
 
     public static void main(String[] args) {
         long from = args.length > 0 ? Long.parseLong(args[0]) : 1;
-        long to = args.length > 1 ? Long.parseLong(args[1]) : 1000;
+        long to = args.length > 1 ? Long.parseLong(args[1]) : 3000;
         int failed = 0;
         for (long seed = from; seed <= to; seed++) {
             RandomRunsTest run = new RandomRunsTest(seed);
