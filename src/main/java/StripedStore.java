@@ -28,7 +28,9 @@ public final class StripedStore {
     private static final int NOTHING = -1;
 
     /** Four bytes to a word, the first one highest: a quarter of the elements that single bytes would take. */
-    private static final int BLOCK_WORDS = 128, BLOCK_BYTES = 512, HEAD_WORDS = 16, HEAD_BYTES = 64;
+    private static final int BLOCK_WORDS = 128, BLOCK_BYTES = 512;
+    /** A block begins and ends with its STAMP; what its ITEM says stands from HEAD_WORDS on. */
+    private static final int HEAD_WORDS = 15, HEAD_BYTES = 60, LAST_WORD = BLOCK_WORDS - 1;
     private static final int STRIPE_BYTES = 448, NAME_WORDS = 50, TAPE_WORDS = 512;
     private static final int TAPE_AT = 2 * NAME_WORDS, ASK_WORDS = TAPE_AT + TAPE_WORDS;
 
@@ -460,7 +462,7 @@ public final class StripedStore {
         int[] y = nodes[place / SLOTS].disk.flushed;
         int i = seenAt[at] % SLOTS * BLOCK_WORDS;
         int j = place % SLOTS * BLOCK_WORDS;
-        for (int w = 0; w < BLOCK_WORDS; w++) {
+        for (int w = 1; w < LAST_WORD; w++) {
             if (x[i + w] != y[j + w]) {
                 return false;
             }
@@ -623,11 +625,14 @@ public final class StripedStore {
     }
 
     /**
-     * A DISK that is a journal through and through: a block is only written where nothing stands that is wanted, with
-     * a sum over all of it, and counts only if it is whole. So there is nothing to undo or to do again after a CRASH.
+     * A DISK that is a journal through and through: a block is only written where nothing stands that is wanted, and
+     * counts only if it is whole. So there is nothing to undo or to do again after a CRASH.
+     *
+     * How it is known to be whole, whatever its bytes are: its first byte and its last one are its STAMP, the same if
+     * it is whole, and a new block gets another STAMP than the last byte that stands in its place. If only some of its
+     * first bytes come to stand, the first byte is new and the last one old: they differ.
      */
     private static final class Disk {
-        private static final int MARK = 1398034256;
         private static final int FRESH = 32;
         final int[] flushed = new int[SLOTS * BLOCK_WORDS];
         /** The blocks written since the latest FLUSH: what they are, which ones, and the other way round. */
@@ -641,26 +646,22 @@ public final class StripedStore {
         }
 
         static void seal(int[] words, int at, int tag) {
-            words[at] = MARK;
             words[at + 1] = tag;
-            words[at + 2] = sum(words, at);
+            stamp(words, at, 1);
         }
 
         static boolean isSealed(int[] words, int at) {
-            return words[at] == MARK;
+            return words[at] != 0;
         }
 
-        /**
-         * The shift lets a bit that is high in one word be felt low in the next: two such must not cancel out. It is
-         * never 0: else the first bytes of a block could seem to be a whole one, with the zeros that were there before.
-         */
-        private static int sum(int[] words, int at) {
-            int h = words[at + 1];
-            for (int w = 3; w < BLOCK_WORDS; w++) {
-                h = (h ^ words[at + w]) * 73244475;
-                h ^= h >>> 15;
-            }
-            return h == 0 ? 1 : h;
+        private static void stamp(int[] words, int at, int value) {
+            words[at] = value << 24;
+            words[at + LAST_WORD] = value;
+        }
+
+        /** 1 or 2, and not what stands there: a new DISK, and a block that was erased, have 0. */
+        private int otherStamp(int slot) {
+            return (flushed[slot * BLOCK_WORDS + LAST_WORD] & 255) == 1 ? 2 : 1;
         }
 
         boolean isFull() {
@@ -679,6 +680,7 @@ public final class StripedStore {
             int f = openFresh(slot);
             if (f >= 0) {
                 System.arraycopy(words, 0, fresh, f * BLOCK_WORDS, BLOCK_WORDS);
+                stamp(fresh, f * BLOCK_WORDS, otherStamp(slot));
             }
         }
 
@@ -731,8 +733,9 @@ public final class StripedStore {
         }
 
         boolean isWhole(int slot) {
-            int at = slot * BLOCK_WORDS;
-            return flushed[at] == MARK && flushed[at + 2] == sum(flushed, at);
+            int first = flushed[slot * BLOCK_WORDS] >>> 24;
+            int last = flushed[slot * BLOCK_WORDS + LAST_WORD] & 255;
+            return first != 0 && first == last;
         }
 
         int seek(int tag) {
@@ -859,6 +862,16 @@ public final class StripedStore {
             return NOTHING;
         }
 
+        /** Not one that was erased since the latest FLUSH: between two of them a block is written once. */
+        private int freeSlot() {
+            for (int slot = 0; slot < SLOTS; slot++) {
+                if (tags[slot] == NOTHING && !disk.isFresh(slot)) {
+                    return slot;
+                }
+            }
+            return NOTHING;
+        }
+
         /** Only what is FLUSHED is told of: the leader takes it for what stays. */
         private void list(int to) {
             Message m = net.post(LISTED, number, to, epoch, set);
@@ -888,7 +901,7 @@ public final class StripedStore {
                 if (disk.isFull()) {
                     flushAndTell();
                 }
-                slot = slotOf(NOTHING);
+                slot = freeSlot();
                 if (slot >= 0) {
                     disk.write(slot, m.body);
                     tags[slot] = m.tag;

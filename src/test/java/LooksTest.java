@@ -1,6 +1,8 @@
 /** Promises 18 to 23: file, where, onDisk, holds, audit, count. */
 public final class LooksTest {
     private static final Check CHECK = new Check("LooksTest");
+    /** Where the bytes of a stripe begin in its block, and the block's last word. */
+    private static final int BEGIN = 15, LAST = 127;
     private static final int[] ODD = {-1, Integer.MIN_VALUE, Integer.MAX_VALUE, 1000000};
 
     public static void main(String[] args) {
@@ -91,13 +93,13 @@ public final class LooksTest {
         }
     }
 
-    /** Turns the word of a disk that begins a stripe's bytes, and says of how many blocks that was. */
-    private static int spoil(StripedStore x, int n, int was) {
+    /** Turns a word of the blocks of a disk whose bytes begin with a word, and says of how many blocks that was. */
+    private static int spoil(StripedStore x, int n, int begin, int word) {
         int[] words = Inside.disk(x, n);
         int found = 0;
         for (int at = 0; at < words.length; at += 128) {
-            if (words[at] != 0 && words[at + 16] == was) {
-                words[at + 16] = ~was;
+            if (words[at] != 0 && words[at + BEGIN] == begin) {
+                words[at + word] = ~words[at + word];
                 found++;
             }
         }
@@ -107,7 +109,10 @@ public final class LooksTest {
     private static void readsTheDisk() {
         StripedStore x = store();
         int n = x.where(2, 0, 1);
-        CHECK.due("a block", spoil(x, n, 0x30313233), 1);
+        CHECK.due("a block", spoil(x, n, 0x30313233, BEGIN), 1);
+        CHECK.due("what stands on the disk", x.onDisk(2, 0, 1, 0), 255 - '0');
+        CHECK.due("another copy", x.onDisk(2, 0, 0, 0), '0');
+        CHECK.due("a block", spoil(x, n, ~0x30313233, LAST), 1);
         CHECK.due("what does not stand whole is none", x.onDisk(2, 0, 1, 0), StripedStore.NONE);
         CHECK.due("another copy", x.onDisk(2, 0, 0, 0), '0');
     }
@@ -125,7 +130,7 @@ public final class LooksTest {
             CHECK.due("holds " + n, x.holds(n), due[n]);
         }
         int spoiled = x.where(2, 0, 1);
-        spoil(x, spoiled, 0x30313233);
+        spoil(x, spoiled, 0x30313233, LAST);
         CHECK.due("one less", x.holds(spoiled), due[spoiled] - 1);
         CHECK.due("holds 6", x.holds(6), StripedStore.REFUSED);
         for (int odd : ODD) {
@@ -144,9 +149,15 @@ public final class LooksTest {
         StripedStore x = store();
         CHECK.due("audit", x.audit(), 0);
         int n = x.where(2, 0, 1);
-        spoil(x, n, 0x30313233);
+        spoil(x, n, 0x30313233, LAST);
         CHECK.due("one is missing", x.audit(), 1);
-        spoil(x, n, ~0x30313233);
+        spoil(x, n, 0x30313233, LAST);
+        CHECK.due("audit", x.audit(), 0);
+        for (int word = BEGIN; word < LAST; word++) {
+            spoil(x, n, 0x30313233, word);
+            CHECK.due("one is unlike", x.audit(), 1);
+            spoil(x, n, word == BEGIN ? ~0x30313233 : 0x30313233, word);
+        }
         CHECK.due("audit", x.audit(), 0);
         int m = x.where(2, 0, 2);
         int other = 0;
@@ -163,7 +174,7 @@ public final class LooksTest {
             free += 128;
         }
         for (int at = 0; at < from.length; at += 128) {
-            if (from[at] != 0 && from[at + 16] == 0x30313233) {
+            if (from[at] != 0 && from[at + BEGIN] == 0x30313233) {
                 System.arraycopy(from, at, to, free, 128);
             }
         }
