@@ -23,6 +23,8 @@ public final class StripedStore {
 
     private static final int MAX_FILES = 48, MAX_SIZE = 8192, MAX_BYTES = 32768, MAX_TAPE = 2048, MAX_NAME = 200;
     private static final int MAX_OPEN = 12, MAX_TICKS = 2000, MAX_GROUPS = 16;
+    /** Far more than can come between two TICKS. */
+    private static final int MANY_MESSAGES = 1000000;
     /** An object is used for 512 calls, so there are no more OPERATIONS than that. */
     private static final int OPERATIONS = 512;
     private static final int NOTHING = -1;
@@ -212,10 +214,13 @@ public final class StripedStore {
                 nodes[n].wake(askers.epoch, askers.set);
             }
         }
-        deliverAll();
-        for (int t = 0; t < MAX_TICKS && !isDone(); t++) {
-            passTick();
-            deliverAll();
+        for (int t = 0; t <= MAX_TICKS && !isDone(); t++) {
+            if (t > 0) {
+                passTick();
+            }
+            for (int i = 0; i < MANY_MESSAGES && net.count > 0; i++) {
+                handOver(net.take(0));
+            }
         }
         if (!isDone()) {
             return STUCK;
@@ -363,12 +368,6 @@ public final class StripedStore {
             askers.hear(m);
         } else if (m.to >= 0 && m.to < nodes.length && nodes[m.to].up) {
             nodes[m.to].hear(m);
-        }
-    }
-
-    private void deliverAll() {
-        for (int i = 0; i < 1000000 && net.count > 0; i++) {
-            handOver(net.take(0));
         }
     }
 

@@ -5,11 +5,37 @@ final class Hand {
     static final int MAKE = 0, WRITE = 1, APPEND = 2, CUT = 3, READ = 4, REMOVE = 5, RENAME = 6, SWAP = 7, SIZE = 8;
     static final int NEXT = 9;
 
+    /** For each group the nodes 0 to 5, the greatest draw first, as reckoned by hand from the document's formula. */
+    private static final String[] ORDER = {"513240", "534120", "135240", "140532", "432501", "053142", "024351", "123045",
+        "401532", "043521", "152034", "541302", "315240", "324150", "230415", "540123"};
+
     private Hand() {
     }
 
+    /** The node of a copy of a group if six nodes are in. */
+    static int nodeOf(int g, int r) {
+        return ORDER[g].charAt(r) - '0';
+    }
+
+    /** The node of a copy of a group if those of set are in. */
+    static int nodeOf(int g, int r, int set) {
+        int before = 0;
+        for (int i = 0; i < 6; i++) {
+            int n = nodeOf(g, i);
+            if ((set >> n & 1) != 0 && before++ == r) {
+                return n;
+            }
+        }
+        return -1;
+    }
+
+    /** The last twenty of 2048 bytes come over some that were fed before: more would be too many. */
     static void tape(StripedStore x, byte[] bytes) {
         for (int at = 0; at < bytes.length; at += 20) {
+            if (x.count(9) + 20 > 2048 && bytes.length >= 20) {
+                x.end(x.count(9) - at + bytes.length - 20);
+                at = bytes.length - 20;
+            }
             int[] w = new int[5];
             for (int i = 0; i < 20; i++) {
                 w[i / 4] = w[i / 4] << 8 | (at + i < bytes.length ? bytes[at + i] & 255 : 0);

@@ -1,4 +1,8 @@
+import java.lang.reflect.Array;
 import java.lang.reflect.Field;
+import java.lang.reflect.Modifier;
+import java.util.IdentityHashMap;
+import java.util.Map;
 
 /** Looks into a store, for what its answers never show: which messages are under way, what is on a disk. */
 final class Inside {
@@ -52,5 +56,45 @@ final class Inside {
             used += words[at] != 0 ? 1 : 0;
         }
         return used;
+    }
+
+    /** All that an object is, down to the last element, in short: two that are the same have the same text here. */
+    static String state(Object of) {
+        StringBuilder text = new StringBuilder();
+        try {
+            write(of, text, new IdentityHashMap<>());
+        } catch (IllegalAccessException e) {
+            throw new IllegalStateException(e);
+        }
+        return text.toString();
+    }
+
+    private static void write(Object of, StringBuilder text, Map<Object, Integer> seen) throws IllegalAccessException {
+        if (of == null || of instanceof Number || of instanceof Boolean) {
+            text.append(of).append(' ');
+            return;
+        }
+        Integer before = seen.putIfAbsent(of, seen.size());
+        if (before != null) {
+            text.append('#').append(before).append(' ');
+        } else if (of instanceof int[] words) {
+            long hash = 0;
+            for (int w : words) {
+                hash = (hash ^ w) * 0x9E3779B97F4A7C15L;
+                hash ^= hash >>> 29;
+            }
+            text.append(words.length).append(':').append(hash).append(' ');
+        } else if (of.getClass().isArray()) {
+            for (int i = 0; i < Array.getLength(of); i++) {
+                write(Array.get(of, i), text, seen);
+            }
+        } else {
+            for (Field f : of.getClass().getDeclaredFields()) {
+                if (!Modifier.isStatic(f.getModifiers())) {
+                    f.setAccessible(true);
+                    write(f.get(of), text, seen);
+                }
+            }
+        }
     }
 }
