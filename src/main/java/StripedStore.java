@@ -1441,6 +1441,8 @@ public final class StripedStore {
             heard = 0;
             clean = 0;
             asked = 0;
+            nextItem = 0;
+            turn = 0;
             mended = false;
         }
 

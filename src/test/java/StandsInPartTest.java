@@ -25,6 +25,7 @@ public final class StandsInPartTest {
             alone.open();
             alone.manyCrashes(new Random(seed));
         }
+        alone.noMoreThan32();
         everyPartOfEveryBlock();
         bytesThatWereNeverWritten();
         CHECK.end();
@@ -99,6 +100,16 @@ public final class StandsInPartTest {
         }
     }
 
+    private int[] change(int slot, Random random) throws ReflectiveOperationException {
+        if (random.nextInt(3) == 0) {
+            erase.invoke(disk, slot);
+            return null;
+        }
+        int[] block = block(random);
+        write.invoke(disk, slot, block);
+        return block;
+    }
+
     /** Four blocks, written, erased, flushed and crashed over and over; null is what does not stand whole. */
     private void manyCrashes(Random random) throws ReflectiveOperationException {
         int[][] stands = new int[4][];
@@ -113,11 +124,12 @@ public final class StandsInPartTest {
             }
             int count = random.nextInt(5);
             for (int i = 0; i < count; i++) {
-                if (random.nextInt(3) == 0) {
+                news[order[i]] = change(order[i], random);
+            }
+            for (int i = 0; i < count; i++) {
+                if (random.nextInt(5) == 0) {
                     erase.invoke(disk, order[i]);
-                } else {
-                    news[order[i]] = block(random);
-                    write.invoke(disk, order[i], news[order[i]]);
+                    news[order[i]] = null;
                 }
             }
             int mask = random.nextInt();
@@ -142,6 +154,20 @@ public final class StandsInPartTest {
                 CHECK.due("whole", whole(slot), stands[slot] != null);
                 CHECK.due("as written", stands[slot] == null || isThere(slot, stands[slot]), true);
             }
+        }
+    }
+
+    /** A node flushes before the 33rd; the disk alone does not take it, and keeps the others. */
+    private void noMoreThan32() throws ReflectiveOperationException {
+        open();
+        Random random = new Random(1);
+        for (int slot = 0; slot < 40; slot++) {
+            write.invoke(disk, slot, block(random));
+            CHECK.due("not flushed", Inside.number(disk, "count"), Math.min(32, slot + 1));
+        }
+        flush.invoke(disk);
+        for (int slot = 0; slot < 40; slot++) {
+            CHECK.due("whole", whole(slot), slot < 32);
         }
     }
 
