@@ -1,3 +1,5 @@
+import java.lang.reflect.Method;
+
 /** The boundary cases of the terms: FILES, STRIPES and the ten OPERATIONS, one test for each sentence. */
 public final class FileEdgesTest {
     private static final Check CHECK = new Check("FileEdgesTest");
@@ -55,6 +57,9 @@ public final class FileEdgesTest {
         stripesGoWithTheirLastByte();
         stripesStayWithAByte();
         stripesLaidAgain();
+        drawsAreIntsThatWrap();
+        noTwoDrawsAreTheSame();
+        theGreatestDrawsOfEveryGroup();
         groupsOfStripes();
         operationsOneBehindTheOther();
         operationsHaveTheNamesOfThen();
@@ -706,6 +711,58 @@ public final class FileEdgesTest {
         CHECK.due("written again", x.file(0, 3), 1);
         CHECK.due("what it had is gone", x.onDisk(0, 1, 0, 0), 0);
         CHECK.due("what is new", x.onDisk(0, 1, 0, 447), 'y');
+    }
+
+    private static int draw(int g, int n) {
+        try {
+            Method draw = Class.forName("StripedStore$Ranks").getDeclaredMethod("draw", int.class, int.class);
+            draw.setAccessible(true);
+            return (Integer) draw.invoke(null, g, n);
+        } catch (ReflectiveOperationException e) {
+            throw new IllegalStateException(e);
+        }
+    }
+
+    /** Reckoned elsewhere, with numbers of any length that were cut to 32 bits. */
+    private static void drawsAreIntsThatWrap() {
+        int[][] due = {{147419777, 2046251071, 1390549558, 1834101340, 982604627, 2144374556},
+            {859666350, 2045804844, 1085358767, 1046823212, 199454475, 64788029},
+            {1305337771, 857660918, 382744906, 318822096, 1399132645, 1883177059}};
+        for (int n = 0; n < 6; n++) {
+            CHECK.due("draw of group 0 by node " + n, draw(0, n), due[0][n]);
+            CHECK.due("draw of group 7 by node " + n, draw(7, n), due[1][n]);
+            CHECK.due("draw of group 15 by node " + n, draw(15, n), due[2][n]);
+        }
+    }
+
+    /** So which of the same comes first can never be seen. */
+    private static void noTwoDrawsAreTheSame() {
+        for (int g = 0; g < 16; g++) {
+            for (int n = 0; n < 36; n++) {
+                CHECK.due("the same draw", n / 6 == n % 6 || draw(g, n / 6) != draw(g, n % 6), true);
+            }
+        }
+    }
+
+    /** The stripes of one file belong to all 16 groups. */
+    private static void theGreatestDrawsOfEveryGroup() {
+        for (int nodes = 3; nodes <= 6; nodes++) {
+            for (int copies = 2; copies <= 3; copies++) {
+                StripedStore x = new StripedStore(nodes, copies, 16);
+                for (int part = 0; part < 4; part++) {
+                    Hand.write(x, "a", 2048 * part, Hand.times("x", 2048));
+                }
+                x.settle();
+                for (int s = 0; s < 19; s++) {
+                    for (int r = 0; r < copies; r++) {
+                        int due = Hand.nodeOf(s * 7 % 16, r, (1 << nodes) - 1);
+                        CHECK.due("stripe " + s + " copy " + r + " of " + nodes, x.where(0, s, r), due);
+                        CHECK.due("and it is there", x.onDisk(0, s, r, 127), 'x');
+                    }
+                }
+                CHECK.due("audit", x.audit(), 0);
+            }
+        }
     }
 
     /** With the greatest IDs that a store can have. */
