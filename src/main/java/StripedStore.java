@@ -1282,9 +1282,9 @@ public final class StripedStore {
             switch (asked.kind) {
                 case MAKE: break;
                 case WRITE:
-                case APPEND: write(); break;
+                case APPEND: copySpan(true); lengthen(); break;
                 case CUT: cut(); break;
-                case READ: gather(); break;
+                case READ: copySpan(false); break;
                 case REMOVE: table.remove(file); break;
                 case RENAME: rename(); break;
                 default: swap();
@@ -1298,14 +1298,23 @@ public final class StripedStore {
             renewed = file;
         }
 
-        private void write() {
+        /** The bytes of the span, between what was asked and the blocks of the STRIPES that they are in. */
+        private void copySpan(boolean toBlocks) {
             for (int i = 0; i < count; i++) {
                 int start = (first + i) * STRIPE_BYTES;
                 int from = Math.max(asked.a, start);
                 int to = Math.min(asked.a + span, start + STRIPE_BYTES);
+                int inAsked = TAPE_AT * 4 + from - asked.a;
                 int inBlock = i * BLOCK_BYTES + HEAD_BYTES + from - start;
-                Bytes.move(asked.words, TAPE_AT * 4 + from - asked.a, blocks, inBlock, to - from);
+                if (toBlocks) {
+                    Bytes.move(asked.words, inAsked, blocks, inBlock, to - from);
+                } else {
+                    Bytes.move(blocks, inBlock, asked.words, inAsked, to - from);
+                }
             }
+        }
+
+        private void lengthen() {
             if (span > 0) {
                 table.size[file] = Math.max(table.size[file], asked.a + span);
             }
@@ -1324,16 +1333,6 @@ public final class StripedStore {
             }
             table.size[file] = asked.a;
             renewed = file;
-        }
-
-        private void gather() {
-            for (int i = 0; i < count; i++) {
-                int start = (first + i) * STRIPE_BYTES;
-                int from = Math.max(asked.a, start);
-                int to = Math.min(asked.a + span, start + STRIPE_BYTES);
-                int inBlock = i * BLOCK_BYTES + HEAD_BYTES + from - start;
-                Bytes.move(blocks, inBlock, asked.words, TAPE_AT * 4 + from - asked.a, to - from);
-            }
         }
 
         private void rename() {

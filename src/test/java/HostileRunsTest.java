@@ -8,56 +8,30 @@ import java.util.Random;
 public final class HostileRunsTest {
     private static final int KINDS = 13, DROP = 12, PUT = 10, OPERATIONS = 480;
     private final Random random;
-    private final StringBuilder log = new StringBuilder();
-    private final StripedStore store;
-    private final PlainStore plain;
-    private final Object net;
-    private final Object[] way;
-    private int heldKinds, heldTo, wrong;
+    private final Both both;
+    private int heldKinds, heldTo;
 
     private HostileRunsTest(long seed) {
         random = new Random(seed);
-        int n = 3 + random.nextInt(4);
-        int r = 2 + random.nextInt(2);
-        int g = 1 + random.nextInt(random.nextBoolean() ? 2 : 6);
-        store = new StripedStore(n, r, g);
-        plain = new PlainStore(n, r, g);
-        net = Inside.get(store, "net");
-        way = (Object[]) Inside.get(net, "way");
-        log.append("new ").append(n).append(' ').append(r).append(' ').append(g).append('\n');
+        int groups = 1 + random.nextInt(random.nextBoolean() ? 2 : 6);
+        both = new Both(3 + random.nextInt(4), 2 + random.nextInt(2), groups);
     }
 
     public static void main(String[] args) {
-        long from = args.length > 0 ? Long.parseLong(args[0]) : 1;
-        long to = args.length > 1 ? Long.parseLong(args[1]) : 1000;
-        int failed = 0;
-        for (long seed = from; seed <= to; seed++) {
-            HostileRunsTest run = new HostileRunsTest(seed);
-            run.go();
-            if (run.wrong > 0) {
-                failed++;
-                System.out.println("seed " + seed + ": " + run.wrong + " answers are not as due");
-                if (failed == 1) {
-                    System.out.println(run.log);
-                }
-            }
-        }
-        System.out.println("HostileRunsTest: runs " + from + " to " + to + ", " + failed + " failed");
-        if (failed > 0) {
-            System.exit(1);
-        }
+        Both.runs("HostileRunsTest", args, 1, 1000, seed -> new HostileRunsTest(seed).go());
     }
 
-    private void go() {
+    private Both go() {
         int rounds = 1 + random.nextInt(6);
-        for (int round = 0; round < rounds && wrong == 0 && plain.count(3) < OPERATIONS; round++) {
+        for (int round = 0; round < rounds && both.isRight() && both.begun() < OPERATIONS; round++) {
             int steps = 3 + random.nextInt(40);
             int seldom = 2 + random.nextInt(6);
-            for (int i = 0; i < steps && wrong == 0; i++) {
+            for (int i = 0; i < steps && both.isRight(); i++) {
                 step(seldom);
             }
-            look();
+            both.settleAndLook(random);
         }
+        return both;
     }
 
     private void step(int seldom) {
@@ -80,18 +54,6 @@ public final class HostileRunsTest {
         }
     }
 
-    private void due(String call, int got, int want) {
-        log.append(call).append(": ").append(got).append('\n');
-        if (got != want) {
-            wrong++;
-            log.append("due is ").append(want).append('\n');
-        }
-    }
-
-    private static int one(boolean b) {
-        return b ? 1 : 0;
-    }
-
     private void hold() {
         int how = random.nextInt(5);
         heldKinds = how == 0 ? 0 : 1 << random.nextInt(KINDS);
@@ -100,15 +62,15 @@ public final class HostileRunsTest {
         } else if (how == 3) {
             heldKinds = random.nextInt(1 << KINDS) & random.nextInt(1 << KINDS);
         } else if (how == 4) {
-            heldKinds = 1 << DROP | one(random.nextBoolean()) | one(random.nextBoolean()) << PUT;
+            heldKinds = 1 << DROP | random.nextInt(2) | random.nextInt(2) << PUT;
         }
-        int places = plain.nodes + 1;
+        int places = both.nodes() + 1;
         heldTo = random.nextInt(3) == 0 ? -1
             : random.nextBoolean() ? 1 << random.nextInt(places) : random.nextInt(1 << places);
     }
 
-    private boolean isHeld(int i) {
-        return (heldKinds >> Inside.number(way[i], "kind") & 1) != 0 && (heldTo >> Inside.number(way[i], "to") & 1) != 0;
+    private boolean isHeld(int k) {
+        return (heldKinds >> Inside.kindOf(both.store, k) & 1) != 0 && (heldTo >> Inside.goalOf(both.store, k) & 1) != 0;
     }
 
     /** The oldest, the newest, or any of those that are not held back. */
@@ -125,36 +87,31 @@ public final class HostileRunsTest {
     }
 
     private void pass(boolean obey) {
-        int count = Inside.number(net, "count");
+        int count = Inside.underWay(both.store);
         int k = count == 0 ? -1 : choose(count, obey);
         int dice = random.nextInt(20);
-        plain.messages();
         if (k < 0) {
             if (count > 90) {
-                store.lose(random.nextInt(count));
+                both.lose(random.nextInt(count));
             }
-            due("tick", store.tick(1), plain.tick(1));
+            both.tick(1);
         } else if (dice == 0) {
-            store.lose(k);
-            log.append("lose ").append(k).append('\n');
+            both.lose(k);
         } else if (dice < 3) {
-            store.twice(k);
-            log.append("twice ").append(k).append('\n');
+            both.twice(k);
         } else {
-            store.deliver(k);
-            log.append("deliver ").append(k).append('\n');
+            both.deliver(k);
         }
         if (random.nextInt(12) == 0) {
-            due("tick", store.tick(1), plain.tick(1));
+            both.tick(1);
         }
     }
 
     private void setName(int k) {
-        int w = random.nextInt(3) + 1 << 24;
-        due("end", store.end(0), plain.end(0));
-        due("feed " + w, store.feed(w, 0, 0, 0, 0), plain.feed(w, 0, 0, 0, 0));
-        due("end", store.end(1), plain.end(1));
-        due("name " + k, store.name(k), plain.name(k));
+        both.end(0);
+        both.feed(random.nextInt(3) + 1 << 24, 0, 0, 0, 0);
+        both.end(1);
+        both.name(k);
     }
 
     private void operation() {
@@ -166,78 +123,35 @@ public final class HostileRunsTest {
         int kind = kinds[random.nextInt(kinds.length)];
         for (int i = kind == 1 || kind == 2 ? random.nextInt(3) : 0; i > 0; i--) {
             int w = random.nextInt();
-            due("feed " + w, store.feed(w, w, w, w, w), plain.feed(w, w, w, w, w));
+            both.feed(w, w, w, w, w);
         }
         int a = random.nextBoolean() ? 430 + random.nextInt(40) : random.nextInt(1400);
-        int b = random.nextInt(100);
-        due("begin " + kind + " " + a + " " + b, store.begin(kind, a, b), plain.begin(kind, a, b));
+        both.begin(kind, a, random.nextInt(100));
     }
 
     private void failure() {
-        int n = random.nextInt(plain.nodes);
+        int n = random.nextInt(both.nodes());
         int dice = random.nextInt(9);
         if (dice < 2) {
-            crash(n, random.nextInt(), random.nextInt(514) - 1);
+            both.crash(n, random.nextInt(), random.nextInt(514) - 1);
             if (random.nextBoolean()) {
-                restart(n);
+                both.restart(n);
             }
         } else if (dice == 2) {
-            crash(n, 0, 0);
-            due("replace " + n, one(store.replace(n)), one(plain.replace(n)));
+            both.crash(n, 0, 0);
+            both.replace(n);
             if (random.nextInt(3) > 0) {
-                restart(n);
+                both.restart(n);
             }
         } else if (dice < 5) {
-            restart(n);
+            both.restart(n);
         } else if (dice == 5) {
-            for (int i = 0; i < plain.nodes; i++) {
-                restart(i);
+            for (int i = 0; i < both.nodes(); i++) {
+                both.restart(i);
             }
         } else {
-            int set = dice == 8 ? -1 : random.nextInt(1 << plain.nodes) | random.nextInt(1 << plain.nodes);
-            due("map " + set, store.map(set), plain.map(set));
-        }
-    }
-
-    private void crash(int n, int mask, int part) {
-        due("crash " + n + " " + mask + " " + part, one(store.crash(n, mask, part)), one(plain.crash(n)));
-    }
-
-    private void restart(int n) {
-        due("restart " + n, one(store.restart(n)), one(plain.restart(n)));
-    }
-
-    private void look() {
-        int from = plain.count(3) - plain.count(4);
-        due("settle", store.settle(), plain.settle());
-        due("audit", store.audit(), plain.audit());
-        for (int operation = from; operation < plain.count(3); operation++) {
-            due("answer " + operation, store.answer(operation), plain.answer(operation));
-            for (int i = 0; i < 101; i += 5) {
-                due("told " + operation + " " + i, store.told(operation, i), plain.told(operation, i));
-            }
-        }
-        for (int what = 0; what < 11; what++) {
-            due("count " + what, store.count(what), plain.count(what));
-        }
-        for (int n = 0; n < plain.nodes; n++) {
-            due("holds " + n, store.holds(n), plain.holds(n));
-        }
-        for (int k = 0; k <= plain.count(0); k++) {
-            lookAtFile(k);
-        }
-    }
-
-    private void lookAtFile(int k) {
-        for (int what = 0; what < 4; what++) {
-            due("file " + k + " " + what, store.file(k, what), plain.file(k, what));
-        }
-        for (int s = 0; s < 5; s++) {
-            for (int r = 0; r < plain.copies; r++) {
-                for (int i = 0; i < 448; i += 11) {
-                    due("onDisk " + k + " " + s + " " + r + " " + i, store.onDisk(k, s, r, i), plain.onDisk(k, s, r, i));
-                }
-            }
+            int most = 1 << both.nodes();
+            both.map(dice == 8 ? -1 : random.nextInt(most) | random.nextInt(most));
         }
     }
 }

@@ -27,6 +27,20 @@ final class Inside {
         return number(get(x, "net"), "count");
     }
 
+    /** What kind of message the k-th one under way is. */
+    static int kindOf(StripedStore x, int k) {
+        return number(message(x, k), "kind");
+    }
+
+    /** The node that it goes to. */
+    static int goalOf(StripedStore x, int k) {
+        return number(message(x, k), "to");
+    }
+
+    private static Object message(StripedStore x, int k) {
+        return ((Object[]) get(get(x, "net"), "way"))[k];
+    }
+
     /** How many operations those who began them have heard of, though settle has not told of them. */
     static int heard(StripedStore x) {
         return number(get(x, "askers"), "heard");
