@@ -37,6 +37,11 @@ final class Inside {
         return number(message(x, k), "to");
     }
 
+    /** The item that it is about. */
+    static int tagOf(StripedStore x, int k) {
+        return number(message(x, k), "tag");
+    }
+
     private static Object message(StripedStore x, int k) {
         return ((Object[]) get(get(x, "net"), "way"))[k];
     }
